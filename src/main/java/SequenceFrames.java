@@ -933,7 +933,7 @@ public final class SequenceFrames {
             if (literals == NONE) {
                 return breaksRules();
             }
-            if (!maySpread(literals)) {
+            if (!mayGrowBy(literals)) {
                 return fault.refuse(Fault.TOO_MUCH, tokenPlace);
             }
             if (literals > end - at) {
@@ -957,7 +957,7 @@ public final class SequenceFrames {
             if (n == NONE) {
                 return breaksRules();
             }
-            if (!maySpread(n + MATCH_LEAST)) {
+            if (!mayGrowBy(n + MATCH_LEAST)) {
                 return fault.refuse(Fault.TOO_MUCH, tokenPlace);
             }
             lastMatch = output.size;
@@ -982,7 +982,7 @@ public final class SequenceFrames {
             return NONE;
         }
 
-        private boolean maySpread(int n) {
+        private boolean mayGrowBy(int n) {
             return n <= most - (output.size - blockStart) && n <= output.room();
         }
 

@@ -11,6 +11,7 @@ public final class FramesTest {
         packRawWithMatch();
         packOffsetMost();
         packFull();
+        packIntoJustTheRoom();
         skip();
         give();
         alter();
@@ -242,18 +243,46 @@ public final class FramesTest {
         for (int i = 0; i < 10; i++) {
             DUE.is("told all the same, sequence(" + i / 5 + ", " + i % 5 + ")", x.sequence(i / 5, i % 5), m.sequence(i / 5, i % 5));
         }
-        x.keep(0);
-        for (int room : new int[] {10, 11}) {
-            while (x.count(1) < 150000 - room) {
-                int left = 150000 - room - x.count(1);
-                if (left >= 8) {
-                    x.skip(0, Math.min(1000, left - 8), 0);
-                } else {
-                    x.give(0, left);
-                }
+    }
+
+    /** An object with given options whose CONTENT (of n bytes) is packed into RAW blocks and others. */
+    private static SequenceFrames prepared(int set, int n) {
+        SequenceFrames x = new SequenceFrames();
+        for (int what = 0; what < 4; what++) {
+            x.option(what, set >> what & 1);
+        }
+        x.option(5, 13);
+        x.fill(97, 26);
+        x.mix(1, 26);
+        x.fill(98, 16);
+        x.keep(n);
+        return x;
+    }
+
+    private static void leaveRoom(SequenceFrames x, int room) {
+        while (x.count(1) < 150000 - room) {
+            int left = 150000 - room - x.count(1);
+            if (left >= 8) {
+                x.skip(0, Math.min(1000, left - 8), 0);
+            } else {
+                x.give(0, left);
             }
-            DUE.is("the least frame into room of " + room, x.pack(), room == 11 ? 150000 : -2);
-            x.cut(100000);
+        }
+    }
+
+    private static void packIntoJustTheRoom() {
+        for (int set = 0; set < 16; set++) {
+            for (int n : new int[] {0, 26, 68}) {
+                SequenceFrames x = prepared(set, n);
+                int size = x.pack();
+                DUE.is("read()", x.read(), n);
+                x.cut(0);
+                leaveRoom(x, size - 1);
+                DUE.is("pack() of " + n + " with " + set + " into one too little", x.pack(), -2);
+                DUE.is("FRAMES stay", x.count(1), 150000 - size + 1);
+                x.cut(150000 - size);
+                DUE.is("pack() of " + n + " with " + set + " into just the room", x.pack(), 150000);
+            }
         }
     }
 
