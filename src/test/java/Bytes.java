@@ -80,12 +80,30 @@ final class Bytes {
     /** Puts all bytes behind FRAMES by give(), eight a call. */
     void giveTo(SequenceFrames x) {
         for (int i = 0; i < size; i += 8) {
-            int n = Math.min(8, size - i);
-            long v = 0;
-            for (int k = 0; k < n; k++) {
-                v = v << 8 | bytes[i + k];
-            }
-            x.give(v, n);
+            x.give(upToEightAt(i), Math.min(8, size - i));
         }
+    }
+
+    /** Puts all bytes behind CONTENT by feed(), eight a call. */
+    void feedTo(SequenceFrames x) {
+        for (int i = 0; i < size; i += 8) {
+            x.feed(upToEightAt(i), Math.min(8, size - i));
+        }
+    }
+
+    private long upToEightAt(int i) {
+        long v = 0;
+        for (int k = i; k < Math.min(size, i + 8); k++) {
+            v = v << 8 | bytes[k];
+        }
+        return v;
+    }
+
+    /** The bytes first, first + 1 .. (256 at most), each another one. */
+    Bytes upFrom(int first, int n) {
+        for (int i = 0; i < n; i++) {
+            add(first + i);
+        }
+        return this;
     }
 }
