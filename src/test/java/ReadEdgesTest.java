@@ -637,6 +637,12 @@ public final class ReadEdgesTest {
         refused("9 for the match's number, before 8", frameOf(bytes(0x1F, 5, 1, 0).run(255, 300)), 9, BLOCK);
         refused("8 for the match, before 9 as no sequence is behind", frameOf(longMatch(65536)), 8, TOKEN);
         refused("9 as no sequence is behind MOST", frameOf(longMatch(65535)), 9, BLOCK);
+        refused("9 as no sequence is behind MOST, the next block's bytes are none of it",
+            head(UNLINKED).block(longMatch(65535)).raw(new Bytes().run(0x50, 0x50)).zeros(), 9, BLOCK);
+        refused("9 for the match's number, MOST is near", frameOf(longMatch(65530).add(0x4F, 1, 2, 3, 4, 1, 0)), 9, BLOCK);
+        refused("9 for the match's number of 255, MOST is near",
+            frameOf(longMatch(65530).add(0x5F, 1, 2, 3, 4, 5, 1, 0, 255)), 9, BLOCK);
+        refused("9 for the literals' number, MOST is there", frameOf(longMatch(65535).add(0xF0)), 9, BLOCK);
         refused("7 of the first sequence before 8 of the second",
             frameOf(bytes(0x13, 5, 2, 0).add(longMatch(70000))), 7, TOKEN + 2);
         refused("8 of the first sequence before 7 of the second",
