@@ -5,6 +5,8 @@ public final class ModelTest {
     private static final Due DUE = new Due();
     private static final int RUNS = 1500;
     private static final int LEAST_OF_EACH_FAULT = 10;
+    /** A round is of at most some 165 calls, so that a run keeps within 512. */
+    private static final int CALLS_BEFORE_LAST_ROUND = 340;
 
     private final Random random;
     private final SequenceFrames x = new SequenceFrames();
@@ -41,7 +43,7 @@ public final class ModelTest {
 
     private void go() {
         boolean large = run % 50 == 0;
-        while (calls < 400) {
+        while (calls < CALLS_BEFORE_LAST_ROUND) {
             switch (below(8)) {
                 case 0, 1, 2 -> grow(large);
                 case 3 -> option();
