@@ -49,7 +49,7 @@ public final class RoomTest {
         countAllOf(x);
         int objectsBefore = objects;
         int elementsBefore = elements;
-        packAndRead(x, CALLS - 2);
+        packAndRead(x, CALLS - 4);
         countAllOf(x);
         DUE.is("objects after the calls", objects, objectsBefore);
         DUE.is("elements after the calls", elements, elementsBefore);
@@ -61,7 +61,7 @@ public final class RoomTest {
         SequenceFrames x = withFullContent();
         ThreadMXBean thread = (ThreadMXBean) ManagementFactory.getThreadMXBean();
         long before = thread.getCurrentThreadAllocatedBytes();
-        packAndRead(x, CALLS - 2);
+        packAndRead(x, CALLS - 4);
         long bytes = thread.getCurrentThreadAllocatedBytes() - before;
         DUE.holds(bytes + " bytes are few objects", bytes / 16 < OBJECTS_MOST / 20);
         DUE.holds(bytes + " bytes are few elements", bytes < ELEMENTS_MOST / 20);
